@@ -125,7 +125,7 @@ public final class LetterRuns {
 
     public int wouldMiss() {
         trial.takeOver(centre);
-        return trial.missedInTheEnd(Integer.MAX_VALUE);
+        return trial.missedInTheEnd(MOST_BATCHES * MOST_PIECES);
     }
 
     /** Tries one value after the other: another order of the rejects may let a greater value miss more. */
@@ -164,13 +164,6 @@ public final class LetterRuns {
         }
         history.note(centre);
         history.keep();
-        int done = obeyOrders();
-        pad.empty();
-        return done;
-    }
-
-    /** Carries out the orders of a pad without a fault, and tells how many it were. */
-    private int obeyOrders() {
         int done = 0;
         pad.place = 0;
         while (done < MOST_CHARACTERS) {
@@ -182,9 +175,11 @@ public final class LetterRuns {
                 break;
             }
         }
+        pad.empty();
         return done;
     }
 
+    /** Carries out the order that was read last; the answer is that of the call that it stands for. */
     private int obeyOrder() {
         switch (pad.order) {
             case 'l': return centre.tell(0, pad.pieces, pad.route, pad.number);
@@ -325,7 +320,14 @@ public final class LetterRuns {
             if (minutes > MINUTES - now) {
                 return NOT_POSSIBLE;
             }
-            passTo(now + minutes);
+            int end = now + minutes;
+            for (int passed = 0; passed < minutes && now < end; passed++) {
+                if (now < nextEvent && isIdle()) {
+                    skipTo(Math.min(nextEvent, end));
+                } else {
+                    passMinute();
+                }
+            }
             return now;
         }
 
@@ -391,23 +393,13 @@ public final class LetterRuns {
         int missedInTheEnd(int limit) {
             int missed = sum(NONE, MISSED);
             for (int events = 0; events < MINUTES && nextEvent < MINUTES && missed <= limit; events++) {
-                passTo(nextEvent + 1);
+                letPass(nextEvent + 1 - now);
                 missed = sum(NONE, MISSED);
             }
             return missed;
         }
 
         // -- minutes
-
-        private void passTo(int end) {
-            for (int passed = 0; passed < MINUTES && now < end; passed++) {
-                if (now < nextEvent && isIdle()) {
-                    skipTo(Math.min(nextEvent, end));
-                } else {
-                    passMinute();
-                }
-            }
-        }
 
         private boolean isIdle() {
             for (int shape = 0; shape < SHAPES; shape++) {
@@ -432,6 +424,8 @@ public final class LetterRuns {
                 nextEvent = findNextEvent();
             }
             for (int shape = 0; shape < SHAPES; shape++) {
+                takeNext(machines[shape]);
+                delayQueue(machines[shape].queue);
                 runMachine(machines[shape], settings[SPEED0 + shape]);
             }
             boolean inShift = now < settings[SHIFT];
@@ -483,28 +477,11 @@ public final class LetterRuns {
             return next;
         }
 
-        private void runMachine(Machine machine, int speed) {
-            if (machine.batch == NONE) {
-                takeNext(machine);
-            }
-            Batch batch = batchAt(machine.batch);
-            if (batch == null) {
-                return;
-            }
-            costs++;
-            delayQueue(machine.queue);
-            if (machine.setupLeft > 0) {
-                machine.setupLeft--;
-                batch.delayBy(SET_UP);
-            } else {
-                sortBatch(machine, batch, Math.min(speed, batch.withMachine));
-            }
-        }
-
         private void takeNext(Machine machine) {
-            Batch batch = batchAt(machine.queue.at(0));
-            if (batch != null) {
-                machine.take(machine.queue.at(0), batch.route, settings[SETUP]);
+            int number = machine.queue.at(0);
+            Batch batch = batchAt(number);
+            if (machine.batch == NONE && batch != null) {
+                machine.take(number, batch.route, settings[SETUP]);
                 machine.queue.removeFirst();
             }
         }
@@ -517,6 +494,20 @@ public final class LetterRuns {
                     break;
                 }
                 batch.delayBy(WAITED);
+            }
+        }
+
+        private void runMachine(Machine machine, int speed) {
+            Batch batch = batchAt(machine.batch);
+            if (batch == null) {
+                return;
+            }
+            costs++;
+            if (machine.setupLeft > 0) {
+                machine.setupLeft--;
+                batch.delayBy(SET_UP);
+            } else {
+                sortBatch(machine, batch, Math.min(speed, batch.withMachine));
             }
         }
 
@@ -645,20 +636,18 @@ public final class LetterRuns {
             withMachine -= some;
             withHands += rejected;
             sorted += some - rejected;
-            if (rejected > 0) {
-                delayBy(REJECTED);
+            if (rejected > 0 && delay == 0) {
+                delay = REJECTED;
             }
-            noteIfSorted(now);
+            if (withMachine == 0 && withHands == 0) {
+                sortedAt = now;
+            }
         }
 
         void leaveHands(int some, int now) {
             withHands -= some;
             sorted += some;
-            noteIfSorted(now);
-        }
-
-        private void noteIfSorted(int now) {
-            if (isSorted()) {
+            if (withMachine == 0 && withHands == 0) {
                 sortedAt = now;
             }
         }

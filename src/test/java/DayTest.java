@@ -17,7 +17,10 @@ public final class DayTest {
         rowOfTheHands();
         rowOfTheHandsAgain();
         shiftAndOvertime();
+        overtimeWithNothingByHand();
         costsOfMachines();
+        freshBatch();
+        fullCentre();
         firstDelays();
         CHECK.finish();
     }
@@ -278,6 +281,7 @@ public final class DayTest {
         x.set(LetterRuns.STAFF, 3);
         x.pass(1);
         row("all of the first one", x, 0, 28, 0, 12, 0, 0);
+        CHECK.due("but not the last of its pieces", x.batch(0, 10), -6);
         row("the second one has yet", x, 1, 28, 6, 6, 0, 0);
         x.pass(1);
         row("the first one is behind it now", x, 0, 24, 2, 14, 0, 0);
@@ -313,6 +317,81 @@ public final class DayTest {
         x.set(LetterRuns.SHIFT, 1440);
         x.pass(100);
         CHECK.due("no staff", x.count(5), 40);
+    }
+
+    private static void overtimeWithNothingByHand() {
+        LetterRuns x = plain(0, 0, 3, 1);
+        x.set(LetterRuns.SHIFT, 0);
+        x.set(LetterRuns.OVER, 1);
+        x.mail(0, 250, 0, 0);
+        x.pass(2);
+        CHECK.due("the machine alone costs", x.count(5), 2);
+        x.set(LetterRuns.REJECT, 20);
+        x.pass(1);
+        CHECK.due("a reject in this minute", x.count(5), 9);
+        x.set(LetterRuns.REJECT, 0);
+        x.pass(1);
+        CHECK.due("the machine alone again", x.count(5), 10);
+        x.set(LetterRuns.STAFF, 0);
+        x.set(LetterRuns.REJECT, 20);
+        x.pass(1);
+        CHECK.due("nobody is there", x.count(5), 11);
+        x.set(LetterRuns.STAFF, 20);
+        x.pass(1);
+        CHECK.due("the pieces of the minute before", x.count(5), 51);
+    }
+
+    /** A batch that is told where there was another one before restore() has nothing of it. */
+    private static void freshBatch() {
+        LetterRuns x = plain(0, 500, 1, 1);
+        x.save(0);
+        x.mail(0, 50, 0, 0);
+        x.cutoff(0, 1);
+        x.pass(4);
+        row("the batch that was there", x, 0, 0, 21, 3, 26, 24);
+        CHECK.due("no batch", x.restore(0), 0);
+        CHECK.due("another one", x.mail(2, 7, 3, 2), 0);
+        row("the other one", x, 0, 7, 0, 0, 0, 0);
+        CHECK.due("its delay", x.batch(0, 9), 0);
+        CHECK.due("its shape", x.batch(0, 0), 2);
+        x.restore(0);
+        x.mail(0, 1, 0, 0);
+        x.pass(1);
+        CHECK.due("sorted", x.batch(0, 10), 0);
+        x.restore(0);
+        x.mail(0, 1, 0, 0);
+        CHECK.due("its last minute", x.batch(0, 10), -6);
+    }
+
+    /** All 40 batches in one queue, and then all of them in the row of the hands. */
+    private static void fullCentre() {
+        LetterRuns x = plain(0, 500, 0, 1);
+        for (int number = 0; number < 40; number++) {
+            x.mail(0, 4, 5, 7);
+        }
+        x.pass(8);
+        CHECK.due("one was taken", x.machine(0, 1), 39);
+        CHECK.due("the last one", x.queued(0, 38), 39);
+        CHECK.due("no more", x.queued(0, 39), -1);
+        CHECK.due("all but the first one waited", x.delayed(1), (1L << 40) - 2);
+        CHECK.due("nobody sorts the rejects", x.sortedAt(), -6);
+        CHECK.due("they miss it", x.wouldMiss(), 80);
+        CHECK.due("one of the staff could", x.least(LetterRuns.STAFF, 0), 1);
+        x.pass(39);
+        CHECK.due("by hand", x.count(4), 80);
+        CHECK.due("none in the queue", x.machine(0, 1), 0);
+        x.set(LetterRuns.STAFF, 20);
+        x.set(LetterRuns.HAND, 50);
+        x.pass(1);
+        CHECK.due("all in one minute", x.count(4), 0);
+        CHECK.due("sorted", x.batch(39, 10), 47);
+        CHECK.due("all are sorted now", x.sortedAt(), 48);
+        x.save(0);
+        x.pass(1000);
+        CHECK.due("all gone", x.route(5, 1), 160);
+        CHECK.due("undo", x.undo(), 5);
+        CHECK.due("not gone", x.route(5, 1), 0);
+        CHECK.due("restore", x.restore(0), 40);
     }
 
     private static void costsOfMachines() {

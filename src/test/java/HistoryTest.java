@@ -6,6 +6,7 @@ public final class HistoryTest {
         undo();
         undoSix();
         undoEverything();
+        undoEachChange();
         undoKeepsPadAndSlots();
         noChanges();
         save();
@@ -79,6 +80,35 @@ public final class HistoryTest {
         for (int change = 5; change >= 0; change--) {
             CHECK.due("19: undo", x.undo(), change);
             CHECK.holds("19: as it was before change " + change, before[change].equals(rest(x)));
+        }
+    }
+
+    /** Each kind of change on a day that is busy, so that none can be undone to an older state. */
+    private static void undoEachChange() {
+        LetterRuns x = new LetterRuns();
+        x.save(0);
+        x.set(LetterRuns.REJECT, 300);
+        x.mail(0, 300, 1, 0);
+        x.mail(1, 300, 2, 0);
+        x.pass(5);
+        for (int kind = 0; kind < 6; kind++) {
+            String before = rest(x);
+            change(x, kind);
+            CHECK.holds("19: change " + kind + " is one", !before.equals(rest(x)));
+            x.undo();
+            CHECK.holds("19: change " + kind + " is undone", before.equals(rest(x)));
+            change(x, (kind + 1) % 5);
+        }
+    }
+
+    private static void change(LetterRuns x, int kind) {
+        switch (kind) {
+            case 0: x.set(LetterRuns.STAFF, x.count(10) + 1); break;
+            case 1: x.cutoff(3, x.route(3, 0) - 1); break;
+            case 2: x.mail(2, 40, 3, x.count(0)); break;
+            case 3: x.pass(2); break;
+            case 4: Check.type(x, "t3;s9;c4=100"); x.carryOut(); break;
+            default: x.restore(0); break;
         }
     }
 

@@ -1,6 +1,6 @@
 /** All promises: many runs of calls, the same ones each time, on LetterRuns and on PlainCentre. */
 public final class ModelTest {
-    private static final int RUNS = 400;
+    private static final int RUNS = 250;
     private static final int CALLS = 130;
     private static final Check CHECK = new Check("ModelTest");
 
