@@ -3,14 +3,14 @@ public final class AnswersTest {
     private static final Check CHECK = new Check("AnswersTest");
 
     public static void main(String[] args) {
-        LetterRuns x = busyDay();
+        Counted x = busyDay();
         batch(x);
         machine(x);
         route(x);
         count(x);
         delayed(x);
         queued(x);
-        askingChangesNothing(x);
+        askingChangesNothing();
         CHECK.finish();
     }
 
@@ -18,8 +18,13 @@ public final class AnswersTest {
      * Minute 4 of a day: batch 0 has 55 of 100 letters left, 10 of 45 went to the hands, who sort one in a minute;
      * batches 1 and 2 wait behind it; batch 3 (flats) went away with its cutoff; batch 4 has not come.
      */
-    private static LetterRuns busyDay() {
-        LetterRuns x = new LetterRuns();
+    private static Counted busyDay() {
+        Counted x = new Counted();
+        busy(x);
+        return x;
+    }
+
+    private static int busy(Face x) {
         x.set(LetterRuns.SETUP, 1);
         x.set(LetterRuns.REJECT, 0);
         x.set(LetterRuns.STAFF, 1);
@@ -34,10 +39,10 @@ public final class AnswersTest {
         x.pass(2);
         x.set(LetterRuns.REJECT, 333);
         x.pass(2);
-        return x;
+        return x.count(0);
     }
 
-    private static void batch(LetterRuns x) {
+    private static void batch(Counted x) {
         int[][] want = {
             // shape, pieces, route, minute, machine, hands, sorted, gone, missed, delay, sorted at
             {0, 100, 3, 0, 55, 8, 37, 0, 0, 2, -6},
@@ -62,7 +67,7 @@ public final class AnswersTest {
         CHECK.due("6: extremes", x.batch(0, Integer.MAX_VALUE), -2);
     }
 
-    private static void machine(LetterRuns x) {
+    private static void machine(Counted x) {
         int[][] want = {
             // batch, in the queue, minutes to set up, route, sorted, set up
             {0, 2, 0, 3, 45, 1},
@@ -83,7 +88,7 @@ public final class AnswersTest {
         CHECK.due("7: extremes", x.machine(0, Integer.MIN_VALUE), -2);
     }
 
-    private static void route(LetterRuns x) {
+    private static void route(Counted x) {
         int[][] want = {
             // route, cutoff, gone, missed, sorted, all
             {0, 720, 0, 0, 0, 0},
@@ -105,7 +110,7 @@ public final class AnswersTest {
         CHECK.due("8: NONE is no route", x.route(LetterRuns.NONE, 4), -1);
     }
 
-    private static void count(LetterRuns x) {
+    private static void count(Counted x) {
         // the letters' machine was busy for four minutes, the flats' one for two, one of the staff for four
         int[] want = {4, 5, 187, 10, 8, 10, 30, 0, 1, 333, 1, 1, 480, 0, 15, 30, 10, 0, 6};
         for (int what = 0; what < want.length; what++) {
@@ -121,7 +126,7 @@ public final class AnswersTest {
         CHECK.due("9: count(17)", x.count(17), 0);
     }
 
-    private static void delayed(LetterRuns x) {
+    private static void delayed(Counted x) {
         CHECK.due("10: delayed(0)", x.delayed(0), 16);
         CHECK.due("10: delayed(1)", x.delayed(1), 6);
         CHECK.due("10: delayed(2)", x.delayed(2), 9);
@@ -133,7 +138,7 @@ public final class AnswersTest {
         CHECK.due("10: delayed(MAX)", x.delayed(Integer.MAX_VALUE), -2);
     }
 
-    private static void queued(LetterRuns x) {
+    private static void queued(Counted x) {
         CHECK.due("11: queued(0, 0)", x.queued(0, 0), 1);
         CHECK.due("11: queued(0, 1)", x.queued(0, 1), 2);
         CHECK.due("11: queued(0, 2)", x.queued(0, 2), -1);
@@ -146,8 +151,15 @@ public final class AnswersTest {
         CHECK.due("11: extremes", x.queued(0, Integer.MAX_VALUE), -1);
     }
 
-    private static void askingChangesNothing(LetterRuns x) {
-        String before = Check.state(x);
-        CHECK.holds("6 to 11: asking changes nothing", before.equals(Check.state(x)));
+    /** On a day that is asked for everything, the same is there as on one that isn't, also later. */
+    private static void askingChangesNothing() {
+        Run day = new Run().then(AnswersTest::busy);
+        Run asked = day.copy().then(x -> {
+            Run.state(x);
+            return x.fault();
+        });
+        CHECK.due("6 to 11: nothing was put", asked.answer(Face::fault), 0);
+        CHECK.due("6 to 11: nothing is recorded", asked.answer(x -> x.count(18)), 6);
+        CHECK.holds("6 to 11: asking changes nothing", day.stateAndLater().equals(asked.stateAndLater()));
     }
 }

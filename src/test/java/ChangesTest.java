@@ -14,7 +14,7 @@ public final class ChangesTest {
     }
 
     private static void newObject() {
-        LetterRuns x = new LetterRuns();
+        Counted x = new Counted();
         int[] counts = {0, 0, 0, 0, 0, 0, 0, 0, 3, 20, 2, 5, 480, 0, 50, 30, 10, 0, 0};
         for (int what = 0; what < counts.length; what++) {
             CHECK.due("1: count(" + what + ")", x.count(what), counts[what]);
@@ -42,7 +42,7 @@ public final class ChangesTest {
         CHECK.due("1: undo", x.undo(), -5);
         CHECK.due("1: restore(0)", x.restore(0), -5);
         CHECK.due("1: restore(1)", x.restore(1), -5);
-        LetterRuns other = new LetterRuns();
+        Counted other = new Counted();
         x.mail(0, 5, 0, 0);
         x.set(0, 9);
         CHECK.due("1: another object's mail", other.count(1), 0);
@@ -50,7 +50,7 @@ public final class ChangesTest {
     }
 
     private static void set() {
-        LetterRuns x = new LetterRuns();
+        Counted x = new Counted();
         CHECK.due("2: set(STAFF, 7)", x.set(LetterRuns.STAFF, 7), 2);
         CHECK.due("2: set(STAFF, 0)", x.set(LetterRuns.STAFF, 0), 7);
         CHECK.due("2: set(STAFF, 0) again", x.set(LetterRuns.STAFF, 0), 0);
@@ -69,7 +69,7 @@ public final class ChangesTest {
         int[] lowest = {0, 0, 0, 1, 0, 0, 1, 1, 1};
         int[] highest = {30, 500, 20, 50, 1440, 1, 100, 100, 100};
         int[] first = {3, 20, 2, 5, 480, 0, 50, 30, 10};
-        LetterRuns x = new LetterRuns();
+        Counted x = new Counted();
         for (int setting = 0; setting < 9; setting++) {
             CHECK.due("2: below " + setting, x.set(setting, lowest[setting] - 1), -2);
             CHECK.due("2: above " + setting, x.set(setting, highest[setting] + 1), -2);
@@ -84,7 +84,7 @@ public final class ChangesTest {
     }
 
     private static void cutoff() {
-        LetterRuns x = new LetterRuns();
+        Counted x = new Counted();
         CHECK.due("3: cutoff(0, 0)", x.cutoff(0, 0), 720);
         CHECK.due("3: cutoff(7, 1439)", x.cutoff(7, 1439), 720);
         CHECK.due("3: cutoff(7, 1438)", x.cutoff(7, 1438), 1439);
@@ -108,7 +108,7 @@ public final class ChangesTest {
     }
 
     private static void mail() {
-        LetterRuns x = new LetterRuns();
+        Counted x = new Counted();
         CHECK.due("4: first", x.mail(2, 999, 7, 1439), 0);
         CHECK.due("4: second", x.mail(0, 1, 0, 0), 1);
         CHECK.due("4: shape", x.batch(0, 0), 2);
@@ -135,7 +135,7 @@ public final class ChangesTest {
     }
 
     private static void mailTooMany() {
-        LetterRuns x = new LetterRuns();
+        Counted x = new Counted();
         for (int number = 0; number < 40; number++) {
             CHECK.due("4: mail " + number, x.mail(number % 3, 1 + number, number % 8, number), number);
         }
@@ -152,7 +152,7 @@ public final class ChangesTest {
     }
 
     private static void pass() {
-        LetterRuns x = new LetterRuns();
+        Counted x = new Counted();
         CHECK.due("5: pass(0)", x.pass(0), -2);
         CHECK.due("5: pass(-1)", x.pass(-1), -2);
         CHECK.due("5: pass(MIN)", x.pass(Integer.MIN_VALUE), -2);
@@ -169,7 +169,7 @@ public final class ChangesTest {
         CHECK.due("5: pass(1)", x.pass(1), -5);
         CHECK.due("5: pass(0)", x.pass(0), -2);
         CHECK.due("5: recorded", x.count(18), 3);
-        LetterRuns whole = new LetterRuns();
+        Counted whole = new Counted();
         CHECK.due("5: pass(1440)", whole.pass(1440), 1440);
     }
 }

@@ -20,6 +20,19 @@ final class Check {
         due(what, holds ? 1 : 0, 1);
     }
 
+    /** Compares texts of several lines, and tells the first line in which they differ. */
+    void same(String what, String got, String want) {
+        String[] gotLines = got.split("\n");
+        String[] wantLines = want.split("\n");
+        int line = 0;
+        while (line < gotLines.length && line < wantLines.length && gotLines[line].equals(wantLines[line])) {
+            line++;
+        }
+        String here = line < gotLines.length ? gotLines[line] : "nothing";
+        String due = line < wantLines.length ? wantLines[line] : "nothing";
+        holds(what + ": \"" + here + "\", due is \"" + due + "\"", got.equals(want));
+    }
+
     void finish() {
         System.out.println(name + ": " + checked + " answers, " + wrong + " of them wrong");
         if (wrong != 0 || checked == 0) {
@@ -36,43 +49,9 @@ final class Check {
         return number;
     }
 
-    static void type(LetterRuns centre, String text) {
+    static void type(Face centre, String text) {
         for (int start = 0; start < text.length(); start += 8) {
             centre.put(packed(text.substring(start, Math.min(start + 8, text.length()))));
         }
-    }
-
-    /** Everything that can be asked about a centre and that no call of the asking changes. */
-    static String state(LetterRuns centre) {
-        StringBuilder state = new StringBuilder();
-        for (int what = 0; what <= 18; what++) {
-            state.append(centre.count(what)).append(' ');
-        }
-        for (int batch = 0; batch < 40; batch++) {
-            state.append("\nb").append(batch);
-            for (int what = 0; what <= 10; what++) {
-                state.append(' ').append(centre.batch(batch, what));
-            }
-        }
-        for (int machine = 0; machine < 3; machine++) {
-            state.append("\nm").append(machine);
-            for (int what = 0; what <= 5; what++) {
-                state.append(' ').append(centre.machine(machine, what));
-            }
-            state.append(" queue");
-            for (int place = 0; place < 40; place++) {
-                state.append(' ').append(centre.queued(machine, place));
-            }
-        }
-        for (int route = 0; route < 8; route++) {
-            state.append("\nr").append(route);
-            for (int what = 0; what <= 4; what++) {
-                state.append(' ').append(centre.route(route, what));
-            }
-        }
-        for (int delay = 0; delay <= 4; delay++) {
-            state.append("\nd").append(centre.delayed(delay));
-        }
-        return state.append("\nf").append(centre.fault()).toString();
     }
 }

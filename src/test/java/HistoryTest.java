@@ -16,7 +16,7 @@ public final class HistoryTest {
     }
 
     private static void undo() {
-        LetterRuns x = new LetterRuns();
+        Counted x = new Counted();
         CHECK.due("19: nothing to undo", x.undo(), -5);
         x.set(LetterRuns.STAFF, 9);
         x.cutoff(1, 99);
@@ -37,7 +37,7 @@ public final class HistoryTest {
     }
 
     private static void undoSix() {
-        LetterRuns x = new LetterRuns();
+        Counted x = new Counted();
         for (int value = 3; value <= 20; value++) {
             x.set(LetterRuns.STAFF, value);
             CHECK.due("19: at most six", x.count(18), Math.min(value - 2, 6));
@@ -64,63 +64,54 @@ public final class HistoryTest {
 
     /** A day with all that a state holds; each change is undone to what was there before it. */
     private static void undoEverything() {
-        LetterRuns x = new LetterRuns();
-        x.set(LetterRuns.REJECT, 300);
-        x.set(LetterRuns.HAND, 1);
-        String[] before = new String[6];
+        Run day = new Run();
+        day.then(x -> x.set(LetterRuns.REJECT, 300)).then(x -> x.set(LetterRuns.HAND, 1));
         int[][] mail = {{0, 300, 1, 0}, {0, 200, 2, 1}, {1, 90, 1, 0}, {2, 45, 1, 2}, {0, 50, 1, 3}};
         for (int[] told : mail) {
-            x.mail(told[0], told[1], told[2], told[3]);
+            day.then(x -> x.mail(told[0], told[1], told[2], told[3]));
         }
-        x.cutoff(1, 6);
+        day.then(x -> x.cutoff(1, 6));
+        String[] before = new String[6];
         for (int change = 0; change < 6; change++) {
-            before[change] = rest(x);
-            x.pass(1 + change);
+            before[change] = day.stateAndLater();
+            int minutes = 1 + change;
+            day.then(x -> x.pass(minutes));
         }
         for (int change = 5; change >= 0; change--) {
-            CHECK.due("19: undo", x.undo(), change);
-            CHECK.holds("19: as it was before change " + change, before[change].equals(rest(x)));
+            CHECK.due("19: undo", day.answer(Face::undo), change);
+            CHECK.holds("19: as it was before change " + change, before[change].equals(day.then(Face::undo).stateAndLater()));
         }
     }
 
     /** Each kind of change on a day that is busy, so that none can be undone to an older state. */
     private static void undoEachChange() {
-        LetterRuns x = new LetterRuns();
-        x.save(0);
-        x.set(LetterRuns.REJECT, 300);
-        x.mail(0, 300, 1, 0);
-        x.mail(1, 300, 2, 0);
-        x.pass(5);
+        Run day = new Run();
+        day.then(x -> x.save(0)).then(x -> x.set(LetterRuns.REJECT, 300));
+        day.then(x -> x.mail(0, 300, 1, 0)).then(x -> x.mail(1, 300, 2, 0)).then(x -> x.pass(5));
         for (int kind = 0; kind < 6; kind++) {
-            String before = rest(x);
-            change(x, kind);
-            CHECK.holds("19: change " + kind + " is one", !before.equals(rest(x)));
-            x.undo();
-            CHECK.holds("19: change " + kind + " is undone", before.equals(rest(x)));
-            change(x, (kind + 1) % 5);
+            int one = kind;
+            String before = day.stateAndLater();
+            day.then(x -> change(x, one));
+            CHECK.holds("19: change " + kind + " is one", !before.equals(day.stateAndLater()));
+            day.then(Face::undo);
+            CHECK.holds("19: change " + kind + " is undone", before.equals(day.stateAndLater()));
+            day.then(x -> change(x, (one + 1) % 5));
         }
     }
 
-    private static void change(LetterRuns x, int kind) {
+    private static int change(Face x, int kind) {
         switch (kind) {
-            case 0: x.set(LetterRuns.STAFF, x.count(10) + 1); break;
-            case 1: x.cutoff(3, x.route(3, 0) - 1); break;
-            case 2: x.mail(2, 40, 3, x.count(0)); break;
-            case 3: x.pass(2); break;
-            case 4: Check.type(x, "t3;s9;c4=100"); x.carryOut(); break;
-            default: x.restore(0); break;
+            case 0: return x.set(LetterRuns.STAFF, x.count(10) + 1);
+            case 1: return x.cutoff(3, x.route(3, 0) - 1);
+            case 2: return x.mail(2, 40, 3, x.count(0));
+            case 3: return x.pass(2);
+            case 4: Check.type(x, "t3;s9;c4=100"); return x.carryOut();
+            default: return x.restore(0);
         }
-    }
-
-    /** The state without how many changes can be undone. */
-    private static String rest(LetterRuns x) {
-        StringBuilder rest = new StringBuilder(Check.state(x));
-        String counts = rest.substring(0, rest.indexOf("\n") - 1);
-        return rest.delete(counts.lastIndexOf(' '), counts.length()).toString();
     }
 
     private static void undoKeepsPadAndSlots() {
-        LetterRuns x = new LetterRuns();
+        Counted x = new Counted();
         x.set(LetterRuns.STAFF, 9);
         Check.type(x, "t5;s");
         CHECK.due("20: save", x.save(1), 0);
@@ -133,7 +124,7 @@ public final class HistoryTest {
     }
 
     private static void noChanges() {
-        LetterRuns x = new LetterRuns();
+        Counted x = new Counted();
         x.pass(3);
         x.set(9, 0);
         x.cutoff(8, 9);
@@ -157,7 +148,7 @@ public final class HistoryTest {
     }
 
     private static void save() {
-        LetterRuns x = new LetterRuns();
+        Counted x = new Counted();
         CHECK.due("20: slot -1", x.save(-1), -2);
         CHECK.due("20: slot 2", x.save(2), -2);
         CHECK.due("20: slot MAX", x.save(Integer.MAX_VALUE), -2);
@@ -173,42 +164,37 @@ public final class HistoryTest {
     }
 
     private static void restore() {
-        LetterRuns x = new LetterRuns();
+        Counted x = new Counted();
         CHECK.due("21: slot -1", x.restore(-1), -2);
         CHECK.due("21: slot 2", x.restore(2), -2);
         CHECK.due("21: slot MIN", x.restore(Integer.MIN_VALUE), -2);
         CHECK.due("21: nothing saved", x.restore(0), -5);
         CHECK.due("21: errors record nothing", x.count(18), 0);
-        x.set(LetterRuns.REJECT, 250);
-        x.set(LetterRuns.STAFF, 1);
-        x.mail(0, 400, 1, 0);
-        x.mail(1, 60, 2, 0);
-        x.mail(0, 30, 3, 1);
-        x.cutoff(2, 5);
-        x.pass(5);
-        x.save(1);
-        String saved = Check.state(x);
-        CHECK.due("21: the other slot", x.restore(0), -5);
-        x.pass(100);
-        x.mail(2, 1, 1, 200);
-        x.cutoff(3, 300);
-        String later = Check.state(x);
-        CHECK.due("21: restore", x.restore(1), 3);
-        CHECK.holds("21: as it was saved", saved.equals(Check.state(x)));
-        x.pass(100);
-        CHECK.due("21: the slot keeps it", x.restore(1), 3);
-        CHECK.holds("21: the slot keeps it", saved.equals(Check.state(x)));
-        CHECK.due("21: undo", x.undo(), 5);
-        CHECK.due("21: undo", x.undo(), 4);
-        CHECK.due("21: undo", x.undo(), 3);
-        x.set(LetterRuns.OVER, 0);
-        x.set(LetterRuns.OVER, 0);
-        x.set(LetterRuns.OVER, 0);
-        CHECK.holds("21: as it was before", later.equals(Check.state(x)));
+        restoreABusyDay();
+    }
+
+    private static void restoreABusyDay() {
+        Run day = new Run();
+        day.then(x -> x.set(LetterRuns.REJECT, 250)).then(x -> x.set(LetterRuns.STAFF, 1));
+        day.then(x -> x.mail(0, 400, 1, 0)).then(x -> x.mail(1, 60, 2, 0)).then(x -> x.mail(0, 30, 3, 1));
+        day.then(x -> x.cutoff(2, 5)).then(x -> x.pass(5)).then(x -> x.save(1));
+        String saved = day.stateAndLater();
+        CHECK.due("21: the other slot", day.answer(x -> x.restore(0)), -5);
+        day.then(x -> x.pass(100)).then(x -> x.mail(2, 1, 1, 200)).then(x -> x.cutoff(3, 300));
+        String later = day.stateAndLater();
+        CHECK.due("21: restore", day.answer(x -> x.restore(1)), 3);
+        CHECK.holds("21: as it was saved", saved.equals(day.then(x -> x.restore(1)).stateAndLater()));
+        day.then(x -> x.pass(100));
+        CHECK.due("21: the slot keeps it", day.answer(x -> x.restore(1)), 3);
+        CHECK.holds("21: the slot keeps it", saved.equals(day.then(x -> x.restore(1)).stateAndLater()));
+        CHECK.due("21: undo", day.answer(Face::undo), 5);
+        CHECK.due("21: undo", day.then(Face::undo).answer(Face::undo), 4);
+        CHECK.due("21: undo", day.then(Face::undo).answer(Face::undo), 3);
+        CHECK.holds("21: as it was before", later.equals(day.then(Face::undo).stateAndLater()));
     }
 
     private static void restoreIsAChange() {
-        LetterRuns x = new LetterRuns();
+        Counted x = new Counted();
         x.save(0);
         Check.type(x, "t1");
         CHECK.due("21: restore", x.restore(0), 0);

@@ -6,7 +6,7 @@ import java.util.List;
  * The document once more, as plainly as it can be told: each piece is an object, each minute is passed alone, and
  * nothing is left out because it can't matter. ModelTest compares LetterRuns with it.
  */
-final class PlainCentre {
+final class PlainCentre implements Face {
     private static final int[] LOW = {0, 0, 0, 1, 0, 0, 1, 1, 1};
     private static final int[] HIGH = {30, 500, 20, 50, 1440, 1, 100, 100, 100};
 
@@ -286,7 +286,8 @@ final class PlainCentre {
         return answer;
     }
 
-    int set(int setting, int value) {
+    @Override
+    public int set(int setting, int value) {
         return change(day.copy(), doSet(setting, value));
     }
 
@@ -299,7 +300,8 @@ final class PlainCentre {
         return previous;
     }
 
-    int cutoff(int route, int minute) {
+    @Override
+    public int cutoff(int route, int minute) {
         return change(day.copy(), doCutoff(route, minute));
     }
 
@@ -315,7 +317,8 @@ final class PlainCentre {
         return previous;
     }
 
-    int mail(int shape, int pieces, int route, int minute) {
+    @Override
+    public int mail(int shape, int pieces, int route, int minute) {
         return change(day.copy(), doMail(shape, pieces, route, minute));
     }
 
@@ -340,7 +343,8 @@ final class PlainCentre {
         return day.batches.size() - 1;
     }
 
-    int pass(int minutes) {
+    @Override
+    public int pass(int minutes) {
         return change(day.copy(), doPass(minutes));
     }
 
@@ -357,7 +361,8 @@ final class PlainCentre {
         return day.now;
     }
 
-    int batch(int number, int what) {
+    @Override
+    public int batch(int number, int what) {
         if (number < 0 || number >= day.batches.size()) {
             return -1;
         }
@@ -368,7 +373,8 @@ final class PlainCentre {
         return what < 0 || what > 10 ? -2 : told[what];
     }
 
-    int machine(int shape, int what) {
+    @Override
+    public int machine(int shape, int what) {
         if (shape < 0 || shape > 2) {
             return -1;
         }
@@ -377,7 +383,8 @@ final class PlainCentre {
         return what < 0 || what > 5 ? -2 : told[what];
     }
 
-    int route(int route, int what) {
+    @Override
+    public int route(int route, int what) {
         if (route < 0 || route > 7) {
             return -1;
         }
@@ -386,7 +393,8 @@ final class PlainCentre {
         return what < 0 || what > 4 ? -2 : told[what];
     }
 
-    int count(int what) {
+    @Override
+    public int count(int what) {
         int[] told = new int[19];
         told[0] = day.now;
         told[1] = day.batches.size();
@@ -402,7 +410,8 @@ final class PlainCentre {
         return what < 0 || what > 18 ? -2 : told[what];
     }
 
-    long delayed(int delay) {
+    @Override
+    public long delayed(int delay) {
         if (delay < 0 || delay > 4) {
             return -2;
         }
@@ -413,14 +422,16 @@ final class PlainCentre {
         return set;
     }
 
-    int queued(int shape, int place) {
+    @Override
+    public int queued(int shape, int place) {
         if (shape < 0 || shape > 2 || place < 0 || place >= day.machines[shape].queue.size()) {
             return -1;
         }
         return new ArrayList<>(day.machines[shape].queue).get(place);
     }
 
-    int sortedAt() {
+    @Override
+    public int sortedAt() {
         Day then = day.copy();
         while (!then.allSorted()) {
             if (then.now == 1440) {
@@ -431,7 +442,8 @@ final class PlainCentre {
         return then.now;
     }
 
-    int wouldMiss() {
+    @Override
+    public int wouldMiss() {
         return missedBy(day.copy());
     }
 
@@ -442,7 +454,8 @@ final class PlainCentre {
         return then.missed(-1);
     }
 
-    int least(int setting, int pieces) {
+    @Override
+    public int least(int setting, int pieces) {
         if (setting != 2 && setting != 6 && setting != 7 && setting != 8 || pieces < 0) {
             return -2;
         }
@@ -456,7 +469,8 @@ final class PlainCentre {
         return -6;
     }
 
-    int put(long characters) {
+    @Override
+    public int put(long characters) {
         String added = "";
         for (long rest = characters; rest != 0; rest >>>= 8) {
             int code = (int) (rest & 255);
@@ -475,14 +489,16 @@ final class PlainCentre {
         return pad.length();
     }
 
-    int wipe() {
+    @Override
+    public int wipe() {
         int length = pad.length();
         pad = "";
         return length;
     }
 
     /** The first character up to which, with it, no text can begin; a text is begun if a pattern of it can go on. */
-    int fault() {
+    @Override
+    public int fault() {
         for (int end = 1; end <= pad.length(); end++) {
             if (!begins(pad.substring(0, end))) {
                 return end - 1;
@@ -504,7 +520,8 @@ final class PlainCentre {
         return false;
     }
 
-    int carryOut() {
+    @Override
+    public int carryOut() {
         if (fault() != -6) {
             return -3;
         }
@@ -532,7 +549,8 @@ final class PlainCentre {
         }
     }
 
-    int undo() {
+    @Override
+    public int undo() {
         if (history.isEmpty()) {
             return -5;
         }
@@ -540,7 +558,8 @@ final class PlainCentre {
         return history.size();
     }
 
-    int save(int slot) {
+    @Override
+    public int save(int slot) {
         if (slot < 0 || slot > 1) {
             return -2;
         }
@@ -548,7 +567,8 @@ final class PlainCentre {
         return day.batches.size();
     }
 
-    int restore(int slot) {
+    @Override
+    public int restore(int slot) {
         if (slot < 0 || slot > 1) {
             return -2;
         }

@@ -17,7 +17,7 @@ public final class TextsTest {
     }
 
     private static void put() {
-        LetterRuns x = new LetterRuns();
+        Counted x = new Counted();
         CHECK.due("15: one character", x.put('t'), 1);
         CHECK.due("15: the last one is the lowest", x.put(Check.packed("12")), 3);
         CHECK.due("15: t12", x.fault(), -6);
@@ -30,7 +30,7 @@ public final class TextsTest {
     }
 
     private static void putWrong() {
-        LetterRuns x = new LetterRuns();
+        Counted x = new Counted();
         long[] wrong = {0, 32, 127, 128, 255, 't' << 8, 't' << 8 | 32, 32 << 8 | 't', 0x7400000031L, 0x740031L,
             -1, Long.MIN_VALUE, Long.MAX_VALUE, 0x7F31313131313131L, 0x2031313131313131L, 0x3100313131313131L,
             0x0100000000000031L, 0x8031L};
@@ -41,7 +41,7 @@ public final class TextsTest {
     }
 
     private static void putTooMany() {
-        LetterRuns x = new LetterRuns();
+        Counted x = new Counted();
         Check.type(x, "t1234567".repeat(9));
         CHECK.due("15: 79", x.put(Check.packed("1234567")), 79);
         CHECK.due("15: 81", x.put(Check.packed("12")), -4);
@@ -50,13 +50,13 @@ public final class TextsTest {
         CHECK.due("15: 81", x.put('1'), -4);
         CHECK.due("15: no character at a full pad", x.put(0), -2);
         CHECK.due("15: 80", x.count(17), 80);
-        LetterRuns y = new LetterRuns();
+        Counted y = new Counted();
         Check.type(y, "t1234567".repeat(9));
         CHECK.due("15: eight to 80", y.put(Check.packed("12345678")), 80);
     }
 
     private static void wipe() {
-        LetterRuns x = new LetterRuns();
+        Counted x = new Counted();
         CHECK.due("16: an empty pad", x.wipe(), 0);
         Check.type(x, "t12;x");
         CHECK.due("16: five", x.wipe(), 5);
@@ -80,7 +80,7 @@ public final class TextsTest {
             {"t:", 1}, {"l1>/", 3}, {"l0>0@0", -6}
         };
         for (Object[] row : texts) {
-            LetterRuns x = new LetterRuns();
+            Counted x = new Counted();
             Check.type(x, (String) row[0]);
             CHECK.due("17: fault of " + row[0], x.fault(), (Integer) row[1]);
             CHECK.due("17: the pad stays", x.count(17), ((String) row[0]).length());
@@ -89,7 +89,7 @@ public final class TextsTest {
     }
 
     private static void faultOfALongText() {
-        LetterRuns x = new LetterRuns();
+        Counted x = new Counted();
         Check.type(x, "t1;".repeat(26));
         CHECK.due("17: 78 characters, ends too early", x.fault(), 78);
         Check.type(x, "t1");
@@ -103,7 +103,7 @@ public final class TextsTest {
     }
 
     private static void carryOut() {
-        LetterRuns x = new LetterRuns();
+        Counted x = new Counted();
         Check.type(x, "l5>7@3;f20>0@1;p999>1@1439;c0=5;t2;s9");
         CHECK.due("18: six orders", x.carryOut(), 6);
         CHECK.due("18: the pad is empty", x.count(17), 0);
@@ -130,7 +130,7 @@ public final class TextsTest {
         String[] orders = {"l0>0@0", "l1000>0@0", "f1>0@1440", "p1>7@9999", "c0=1440", "c0=9999", "t0", "t1441", "t9999", "s21",
             "s9999"};
         for (String order : orders) {
-            LetterRuns x = new LetterRuns();
+            Counted x = new Counted();
             Check.type(x, order);
             CHECK.due("18: " + order, x.carryOut(), 0);
             CHECK.due("18: the pad is empty", x.count(17), 0);
@@ -138,14 +138,14 @@ public final class TextsTest {
             CHECK.due("18: nothing was told", x.count(1), 0);
             CHECK.due("18: no minute passed", x.count(0), 0);
         }
-        LetterRuns x = new LetterRuns();
+        Counted x = new Counted();
         Check.type(x, "t1440");
         CHECK.due("18: the whole day", x.carryOut(), 1);
         CHECK.due("18: the whole day", x.count(0), 1440);
     }
 
     private static void carryOutUpToAnError() {
-        LetterRuns x = new LetterRuns();
+        Counted x = new Counted();
         Check.type(x, "s3;t5;l1>1@4;s4");
         CHECK.due("18: up to the mail for a minute that is over", x.carryOut(), 2);
         CHECK.due("18: before it", x.count(10), 3);
@@ -162,7 +162,7 @@ public final class TextsTest {
     }
 
     private static void carryOutAFault() {
-        LetterRuns x = new LetterRuns();
+        Counted x = new Counted();
         CHECK.due("18: an empty pad", x.carryOut(), -3);
         Check.type(x, "s3;t5;");
         CHECK.due("18: ends too early", x.carryOut(), -3);

@@ -15,7 +15,7 @@ public final class WhatIfTest {
     }
 
     private static void sortedAt() {
-        LetterRuns x = new LetterRuns();
+        Counted x = new Counted();
         CHECK.due("12: without mail", x.sortedAt(), 0);
         x.pass(7);
         CHECK.due("12: without mail", x.sortedAt(), 7);
@@ -37,7 +37,7 @@ public final class WhatIfTest {
     }
 
     private static void sortedAtTheEnd() {
-        LetterRuns x = new LetterRuns();
+        Counted x = new Counted();
         x.set(LetterRuns.SETUP, 0);
         x.set(LetterRuns.REJECT, 0);
         x.mail(0, 50, 0, 1439);
@@ -46,7 +46,7 @@ public final class WhatIfTest {
         CHECK.due("12: a piece too many", x.sortedAt(), -6);
         x.pass(1440);
         CHECK.due("12: at the end", x.sortedAt(), -6);
-        LetterRuns y = new LetterRuns();
+        Counted y = new Counted();
         y.set(LetterRuns.STAFF, 0);
         y.mail(0, 100, 0, 0);
         CHECK.due("12: nobody sorts the rejects", y.sortedAt(), -6);
@@ -58,7 +58,7 @@ public final class WhatIfTest {
     }
 
     private static void wouldMiss() {
-        LetterRuns x = new LetterRuns();
+        Counted x = new Counted();
         CHECK.due("13: without mail", x.wouldMiss(), 0);
         x.set(LetterRuns.SETUP, 0);
         x.set(LetterRuns.REJECT, 0);
@@ -88,7 +88,7 @@ public final class WhatIfTest {
     }
 
     private static void least() {
-        LetterRuns x = new LetterRuns();
+        Counted x = new Counted();
         x.set(LetterRuns.SETUP, 0);
         x.set(LetterRuns.REJECT, 500);
         x.set(LetterRuns.SPEED0, 100);
@@ -114,7 +114,7 @@ public final class WhatIfTest {
 
     private static void leastOfEachSpeed() {
         for (int shape = 0; shape < 3; shape++) {
-            LetterRuns x = new LetterRuns();
+            Counted x = new Counted();
             x.set(LetterRuns.SETUP, 2);
             x.set(LetterRuns.REJECT, 0);
             x.cutoff(4, 6);
@@ -133,7 +133,7 @@ public final class WhatIfTest {
 
     /** By some speeds of the letters' machine the tenth piece is a flat: it is rejected, and misses its cutoff. */
     private static void leastIsNotTheFirstOfAllGreater() {
-        LetterRuns x = new LetterRuns();
+        Counted x = new Counted();
         x.set(LetterRuns.SETUP, 0);
         x.set(LetterRuns.STAFF, 1);
         x.set(LetterRuns.HAND, 1);
@@ -156,7 +156,7 @@ public final class WhatIfTest {
     }
 
     private static void leastWrong() {
-        LetterRuns x = new LetterRuns();
+        Counted x = new Counted();
         int[] others = {-1, 0, 1, 3, 4, 5, 9, Integer.MIN_VALUE, Integer.MAX_VALUE};
         for (int setting : others) {
             CHECK.due("14: least(" + setting + ", 0)", x.least(setting, 0), -2);
@@ -168,22 +168,16 @@ public final class WhatIfTest {
     }
 
     private static void nothingChanges() {
-        LetterRuns x = new LetterRuns();
-        x.mail(0, 500, 0, 0);
-        x.mail(1, 500, 1, 5);
-        x.cutoff(1, 9);
-        x.pass(7);
-        x.mail(2, 33, 2, 20);
-        x.save(1);
-        Check.type(x, "t5;");
-        String before = Check.state(x);
-        x.sortedAt();
-        x.wouldMiss();
-        x.least(LetterRuns.STAFF, 0);
-        x.least(LetterRuns.SPEED1, 400);
-        x.least(LetterRuns.SPEED1, 0);
-        CHECK.holds("12 to 14: nothing changes", before.equals(Check.state(x)));
-        CHECK.due("12 to 14: nothing is recorded", x.undo(), 4);
-        CHECK.due("12 to 14: the latest change was the mail", x.count(1), 2);
+        Run day = new Run();
+        day.then(x -> x.mail(0, 500, 0, 0)).then(x -> x.mail(1, 500, 1, 5)).then(x -> x.cutoff(1, 9));
+        day.then(x -> x.pass(7)).then(x -> x.mail(2, 33, 2, 20)).then(x -> x.save(1)).then(x -> x.put(Check.packed("t5;")));
+        Run asked = day.copy();
+        asked.then(Face::sortedAt).then(Face::wouldMiss).then(x -> x.least(LetterRuns.STAFF, 0));
+        asked.then(x -> x.least(LetterRuns.SPEED1, 400)).then(x -> x.least(LetterRuns.SPEED1, 0));
+        CHECK.holds("12 to 14: nothing changes", day.stateAndLater().equals(asked.stateAndLater()));
+        CHECK.due("12 to 14: the pad stays", asked.answer(x -> x.count(17)), 3);
+        CHECK.due("12 to 14: the slot stays", asked.answer(x -> x.restore(1)), 3);
+        CHECK.due("12 to 14: nothing is recorded", asked.answer(Face::undo), 4);
+        CHECK.due("12 to 14: the latest change was the mail", asked.then(Face::undo).answer(x -> x.count(1)), 2);
     }
 }
