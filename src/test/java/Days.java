@@ -36,16 +36,18 @@ final class Days {
 
     Days(Kind kind, int number) {
         this.kind = kind;
-        seed = 1000003L * number + 31 * kind.ordinal() + 17;
-        mostPieces = number % 6 == 0 ? (kind == Kind.WHAT_IF ? 300 : 999) : number % 6 < 3 ? 9 : 130;
+        seed = 1000L * number + kind.ordinal();
+        mostPieces = number == 0 ? 999 : number % 6 < 3 ? 9 : 130;
         hurry = number % 3 == 0 ? 3 : number % 3 == 1 ? 8 : 40;
         begin();
     }
 
-    /** A number from 0 to below the bound. */
+    /** A number from 0 to below the bound; rows that begin with seeds side by side are not alike. */
     int any(int bound) {
-        seed = seed * 6364136223846793005L + 1442695040888963407L;
-        return (int) ((seed >>> 33) % bound);
+        seed += 0x9E3779B97F4A7C15L;
+        long mixed = (seed ^ seed >>> 30) * 0xBF58476D1CE4E5B9L;
+        mixed = (mixed ^ mixed >>> 27) * 0x94D049BB133111EBL;
+        return (int) ((mixed ^ mixed >>> 31) >>> 33) % bound;
     }
 
     int pick(int... numbers) {
@@ -73,10 +75,11 @@ final class Days {
     private void begin() {
         addSave(0);
         boolean crowd = kind == Kind.CROWD;
+        boolean late = kind == Kind.OVERTIME || kind == Kind.END_OF_DAY;
         addSet(LetterRuns.SETUP, pick(0, 1, 2, 3, 7));
-        addSet(LetterRuns.REJECT, crowd ? pick(250, 400, 500) : pick(0, 20, 100, 333, 500));
-        addSet(LetterRuns.STAFF, crowd ? 1 : pick(0, 1, 2, 5));
-        addSet(LetterRuns.HAND, pick(1, 2, 5));
+        addSet(LetterRuns.REJECT, crowd || late ? pick(250, 400, 500) : pick(0, 20, 100, 333, 500));
+        addSet(LetterRuns.STAFF, crowd ? 1 : late ? 1 + any(2) : pick(0, 1, 2, 5));
+        addSet(LetterRuns.HAND, late ? 1 : pick(1, 2, 5));
         for (int shape = 0; shape < 3; shape++) {
             addSet(LetterRuns.SPEED0 + shape, crowd ? pick(1, 2, 7) : pick(3, 7, 10, 50));
         }
@@ -156,8 +159,16 @@ final class Days {
             addSet(setting, setting == LetterRuns.SHIFT ? now + pick(0, 0, 1, 2, 9) : setting == LetterRuns.OVER ? any(2) : any(4));
             return;
         }
-        int setting = once(25) ? pick(-1, 9) : any(9);
-        addSet(setting, once(25) ? pick(-1, 501, 1441) : pick(0, 0, 1, 2, 3, 5, 10, 20, 30, 100, 500, x.count(0)));
+        int setting = any(9);
+        if (once(25)) {
+            addSet(pick(-1, 9), 1);
+        } else if (once(6)) {
+            int lowest = Sentences.LOWEST[setting];
+            int highest = Sentences.HIGHEST[setting];
+            addSet(setting, pick(lowest, highest, lowest - 1, highest + 1));
+        } else {
+            addSet(setting, pick(0, 0, 1, 2, 3, 5, 10, 20, 30, 100, 500, x.count(0)));
+        }
     }
 
     private void cutoff(Face x) {
@@ -274,7 +285,7 @@ final class Days {
         for (int orders = any(once(3) ? 9 : 4); orders > 0; orders--) {
             text.append(';').append(order(x));
         }
-        if (once(5)) {
+        if (once(8)) {
             int place = any(text.length());
             text.replace(place, Math.min(text.length(), place + any(2)), "" + "lfpcts;>@=0123456789x".charAt(any(21)));
         }
@@ -295,7 +306,7 @@ final class Days {
         if (once(4)) {
             add("undo()", Face::undo);
         }
-        if (once(4)) {
+        if (once(2)) {
             add("wipe()", Face::wipe);
         }
     }
@@ -308,8 +319,9 @@ final class Days {
             add("put(" + packed + ")", x -> x.put(packed));
             start = end;
         }
-        if (once(8)) {
-            long strange = once(2) ? seed : Check.packed("t1") & ~(255L << 8 * any(4));
+        if (once(12)) {
+            long edge = pick(32, 33, 126, 127);
+            long strange = once(3) ? seed : once(2) ? Check.packed("t1") & ~(255L << 8 * any(4)) : edge << 8 * any(3) | '1';
             add("put(" + strange + ")", x -> x.put(strange));
         }
     }
@@ -318,7 +330,7 @@ final class Days {
         switch (any(6)) {
             case 0: return "t" + pick(1, 1, 2, 5, once(12) ? 0 : 3, once(25) ? 9999 : 1);
             case 1: return "s" + any(once(20) ? 40 : 21);
-            case 2: return "c" + any(8) + "=" + Math.max(0, soon(x));
+            case 2: return "c" + any(once(12) ? 10 : 8) + "=" + Math.max(0, soon(x));
             default:
                 int pieces = once(20) ? pick(0, 1000) : 1 + any(mostPieces);
                 return "lfp".charAt(any(3)) + "" + pieces + ">" + any(8) + "@" + Math.max(0, soon(x));

@@ -1,30 +1,21 @@
 import com.sun.source.tree.ArrayAccessTree;
 import com.sun.source.tree.ArrayTypeTree;
-import com.sun.source.tree.AssertTree;
 import com.sun.source.tree.AssignmentTree;
 import com.sun.source.tree.BinaryTree;
 import com.sun.source.tree.BlockTree;
-import com.sun.source.tree.CatchTree;
 import com.sun.source.tree.ClassTree;
 import com.sun.source.tree.CompilationUnitTree;
 import com.sun.source.tree.CompoundAssignmentTree;
 import com.sun.source.tree.ExpressionTree;
 import com.sun.source.tree.ForLoopTree;
 import com.sun.source.tree.IdentifierTree;
-import com.sun.source.tree.ImportTree;
-import com.sun.source.tree.LambdaExpressionTree;
-import com.sun.source.tree.LiteralTree;
-import com.sun.source.tree.MemberReferenceTree;
 import com.sun.source.tree.MemberSelectTree;
 import com.sun.source.tree.MethodInvocationTree;
 import com.sun.source.tree.MethodTree;
 import com.sun.source.tree.NewArrayTree;
 import com.sun.source.tree.NewClassTree;
 import com.sun.source.tree.ParenthesizedTree;
-import com.sun.source.tree.SynchronizedTree;
-import com.sun.source.tree.ThrowTree;
 import com.sun.source.tree.Tree;
-import com.sun.source.tree.TryTree;
 import com.sun.source.tree.TypeCastTree;
 import com.sun.source.tree.UnaryTree;
 import com.sun.source.tree.VariableTree;
@@ -65,6 +56,10 @@ public final class LanguageTest extends TreePathScanner<Void, Void> {
         "String", "StringBuilder");
     private static final Set<String> CONSTANT = Set.of("int", "long", "boolean", "char", "String", "int[]", "long[]", "char[]",
         "byte[]");
+
+    private static final Set<Tree.Kind> FORBIDDEN = Set.of(Tree.Kind.IMPORT, Tree.Kind.LAMBDA_EXPRESSION,
+        Tree.Kind.MEMBER_REFERENCE, Tree.Kind.THROW, Tree.Kind.TRY, Tree.Kind.CATCH, Tree.Kind.SYNCHRONIZED, Tree.Kind.ASSERT,
+        Tree.Kind.STRING_LITERAL);
 
     private final Trees trees;
     private final SourcePositions positions;
@@ -332,58 +327,10 @@ public final class LanguageTest extends TreePathScanner<Void, Void> {
     }
 
     @Override
-    public Void visitLiteral(LiteralTree tree, Void none) {
-        rule("10: no texts are joined, there are none", tree.getKind() != Tree.Kind.STRING_LITERAL, tree);
-        return super.visitLiteral(tree, none);
-    }
-
-    // ---- what may not stand there at all
-
-    @Override
-    public Void visitImport(ImportTree tree, Void none) {
-        forbidden("4: import", tree);
-        return super.visitImport(tree, none);
-    }
-
-    @Override
-    public Void visitLambdaExpression(LambdaExpressionTree tree, Void none) {
-        forbidden("2: lambda", tree);
-        return super.visitLambdaExpression(tree, none);
-    }
-
-    @Override
-    public Void visitMemberReference(MemberReferenceTree tree, Void none) {
-        forbidden("2: method reference", tree);
-        return super.visitMemberReference(tree, none);
-    }
-
-    @Override
-    public Void visitThrow(ThrowTree tree, Void none) {
-        forbidden("6: throw", tree);
-        return super.visitThrow(tree, none);
-    }
-
-    @Override
-    public Void visitTry(TryTree tree, Void none) {
-        forbidden("6: try", tree);
-        return super.visitTry(tree, none);
-    }
-
-    @Override
-    public Void visitCatch(CatchTree tree, Void none) {
-        forbidden("6: catch", tree);
-        return super.visitCatch(tree, none);
-    }
-
-    @Override
-    public Void visitSynchronized(SynchronizedTree tree, Void none) {
-        forbidden("6: synchronized", tree);
-        return super.visitSynchronized(tree, none);
-    }
-
-    @Override
-    public Void visitAssert(AssertTree tree, Void none) {
-        forbidden("6: assert", tree);
-        return super.visitAssert(tree, none);
+    public Void scan(Tree tree, Void none) {
+        if (tree != null) {
+            rule("no " + tree.getKind(), !FORBIDDEN.contains(tree.getKind()), tree);
+        }
+        return super.scan(tree, none);
     }
 }

@@ -4,7 +4,7 @@ import java.util.List;
 
 /**
  * The document once more, as plainly as it can be told: each piece is an object, each minute is passed alone, and
- * nothing is left out because it can't matter. ModelTest compares LetterRuns with it.
+ * nothing is left out because it can't matter. ModelTest compares LetterRuns with it, Days asks it what there is.
  */
 final class PlainCentre implements Face {
     private static final int[] LOW = {0, 0, 0, 1, 0, 0, 1, 1, 1};

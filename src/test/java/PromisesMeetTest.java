@@ -240,8 +240,8 @@ public final class PromisesMeetTest {
     private void least() {
         int missed = (int) day.answer(Face::wouldMiss);
         int setting = days.pick(LetterRuns.STAFF, LetterRuns.SPEED0, LetterRuns.SPEED1, LetterRuns.SPEED2);
-        int lowest = setting == LetterRuns.STAFF ? 0 : 1;
-        int highest = setting == LetterRuns.STAFF ? 20 : 100;
+        int lowest = Sentences.LOWEST[setting];
+        int highest = Sentences.HIGHEST[setting];
         int[] by = new int[highest + 1];
         for (int value = lowest; value <= highest; value++) {
             int one = value;
@@ -311,10 +311,9 @@ public final class PromisesMeetTest {
         int now = count(0);
         int route = days.any(8);
         int setting = days.any(9);
-        int[] lowest = {0, 0, 0, 1, 0, 0, 1, 1, 1};
         int shape = days.any(3);
         return new Days.Step[] {
-            step("set", x -> x.set(setting, lowest[setting])), step("set of the same", x -> x.set(setting, x.count(8 + setting))),
+            step("set", x -> x.set(setting, Sentences.LOWEST[setting])), step("set of the same", x -> x.set(setting, x.count(8 + setting))),
             step("cutoff for now", x -> x.cutoff(route, now)), step("cutoff", x -> x.cutoff(route, now + 3)),
             step("mail for now", x -> x.mail(shape, 33, route, now)), step("mail", x -> x.mail(shape, 150, route, now + 2)),
             step("pass(1)", x -> x.pass(1)), step("pass(7)", x -> x.pass(7)), step("pass to the end", x -> x.pass(1440 - now)),
