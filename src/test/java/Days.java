@@ -181,7 +181,7 @@ final class Days {
         int same = kind == Kind.CROWD ? 1 + any(5) : 1;
         int shape = once(40) ? pick(-1, 3) : any(kind == Kind.CROWD ? 2 : 3);
         for (int batch = 0; batch < same; batch++) {
-            int pieces = once(40) ? pick(0, -1, 1000) : 1 + any(mostPieces);
+            int pieces = once(40) ? pick(0, -1, 999, 1000) : 1 + any(mostPieces);
             int route = someRoute();
             int minute = soon(x);
             add("mail(" + shape + ", " + pieces + ", " + route + ", " + minute + ")", y -> y.mail(shape, pieces, route, minute));
@@ -287,7 +287,8 @@ final class Days {
         }
         if (once(8)) {
             int place = any(text.length());
-            text.replace(place, Math.min(text.length(), place + any(2)), "" + "lfpcts;>@=0123456789x".charAt(any(21)));
+            String sign = once(3) ? "" : "" + "lfpcts;>@=0123456789x".charAt(any(21));
+            text.replace(place, Math.min(text.length(), place + (sign.isEmpty() ? 1 : any(2))), sign);
         }
         addPuts(text.toString());
         if (once(3)) {
